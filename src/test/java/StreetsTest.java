@@ -4,6 +4,7 @@ public final class StreetsTest {
 
     public static void main(String[] args) {
         assignInParts();
+        assignByTimesOfTheBeginning();
         assignLost();
         assignOnlyDrivers();
         assignAnew();
@@ -19,6 +20,7 @@ public final class StreetsTest {
         fitLooksAtTheFarthest();
         fitInParts();
         fitBounds();
+        fitGreat();
         fitEnds();
         fitWrong();
         CHECK.end();
@@ -61,6 +63,24 @@ public final class StreetsTest {
         CHECK.same("15: throwing changes nothing", 1, x.flow(0, 0));
     }
 
+    private static void assignByTimesOfTheBeginning() {
+        TripRounds x = nodes(3);
+        x.zone(0, 0, 10);
+        x.zone(1, 10, 0);
+        x.zone(2, 0, 10);
+        x.weight(1, 1, 0);
+        x.street(1, 0, 1, 10, 1);
+        x.street(0, 2, 1, 0, 1);
+        x.street(1, 2, 9, 0, 1);
+        x.rounds(1, 0);
+        x.assign(1);
+        CHECK.same("15: a pair does not slow another of its part", 10, x.flow(0, 0));
+        CHECK.same("15: both begin there", 5, x.link(0, 1, 2));
+        x.assign(5);
+        CHECK.same("15: but one of a later part", 1, x.link(0, 1, 2));
+        CHECK.same("15: which goes elsewhere", 4, x.link(2, 1, 2));
+    }
+
     private static void assignLost() {
         TripRounds x = pair(2, 5);
         x.street(1, 0, 1, 0, 1);
@@ -100,7 +120,6 @@ public final class StreetsTest {
         x.assign(1);
         CHECK.same("15: all volumes are 0 at first", 10, x.flow(0, 0));
         CHECK.same("19: and links", 10, x.link(0, 0, 1));
-        x.rounds(1, 0);
         x.size(0, 0, 4);
         x.rounds(1, 0);
         CHECK.same("16: volumes stay till then", 10, x.flow(0, 0));
@@ -167,6 +186,12 @@ public final class StreetsTest {
         CHECK.same("17: from the first street", 10, longest.way(0, 11, 0));
         CHECK.same("17: and no more", -1, longest.way(0, 11, 11));
         CHECK.same("18: through all nodes", 11, longest.least(0, 11));
+        TripRounds upwards = nodes(12);
+        for (int i = 1; i < 12; i++) {
+            upwards.street(i - 1, i, 1, 0, 1);
+        }
+        CHECK.same("17: whatever came first", 10, upwards.way(0, 11, 10));
+        CHECK.same("18: whatever came first", 11, upwards.least(0, 11));
     }
 
     private static void waysByTimeNow() {
@@ -237,7 +262,6 @@ public final class StreetsTest {
         x.assign(2);
         // 5 on a street of time 15 and 5 on one of 9.
         CHECK.same("20: on both", 30, x.gap());
-        x.rounds(1, 0);
         x.size(0, 0, 0);
         x.rounds(1, 0);
         CHECK.same("20: of the latest assignment, not of the table", 30, x.gap());
@@ -256,8 +280,6 @@ public final class StreetsTest {
         CHECK.same("20: less than 0 with a closed street", -470, x.gap());
         x.open(1, false);
         CHECK.same("20: without a way nothing is less", 620, x.gap());
-        x.open(0, true);
-        x.open(1, true);
         TripRounds lost = pair(2, 10);
         lost.assign(1);
         lost.street(0, 1, 5, 0, 1);
@@ -365,6 +387,33 @@ public final class StreetsTest {
         CHECK.same("22: 1000000 at most", 1000000, x.trips(0, 1));
         CHECK.same("22: a thousandth of it", 1000, x.flow(0, 0));
         CHECK.same("22: counted though nothing changes", 20, x.fit(20));
+    }
+
+    private static void fitGreat() {
+        TripRounds one = pair(2, 100000);
+        one.street(0, 1, 1, 0, 1);
+        one.assign(1);
+        one.count(0, 200000);
+        CHECK.same("22: products beyond an int", 1, one.fit(5));
+        CHECK.same("22: twice as many", 200000, one.trips(0, 1));
+        TripRounds x = nodes(5);
+        x.zone(4, 0, 100000);
+        x.street(3, 4, 1, 1000, 1000000);
+        for (int i = 0; i < 3; i++) {
+            int zone = x.zone(i, 100000, 0);
+            x.street(i, 3, 1, 0, 1);
+            x.count(zone, 1000000);
+        }
+        for (int from = 1; from < 4; from++) {
+            for (int to = 1; to < 4; to++) {
+                x.weight(from, to, 0);
+            }
+        }
+        x.rounds(1, 0);
+        x.assign(1);
+        CHECK.same("22: street by street", 3, x.fit(20));
+        CHECK.same("16: they come together", 3000000, x.flow(0, 0));
+        CHECK.same("16: products beyond an int", 3001, x.flow(0, 1));
     }
 
     private static void fitEnds() {
