@@ -10,6 +10,13 @@ final class Check {
         }
     }
 
+    void text(String what, String due, String got) {
+        looked++;
+        if (!due.equals(got)) {
+            tell(what + " answered " + got + ", due is " + due);
+        }
+    }
+
     void argument(String what, Runnable call) {
         mustThrow(what, IllegalArgumentException.class, call);
     }

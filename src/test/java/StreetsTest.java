@@ -26,26 +26,8 @@ public final class StreetsTest {
         CHECK.end();
     }
 
-    private static TripRounds nodes(int many) {
-        TripRounds x = new TripRounds();
-        for (int i = 0; i < many; i++) {
-            x.node();
-        }
-        return x;
-    }
-
-    /** Zone 0 at node 0 from where so many go to zone 1 at node 1; no street yet. */
-    private static TripRounds pair(int nodes, int trips) {
-        TripRounds x = nodes(nodes);
-        x.zone(0, trips, 0);
-        x.zone(1, 0, trips);
-        x.weight(0, 0, 0);
-        x.rounds(1, 0);
-        return x;
-    }
-
     private static void assignInParts() {
-        TripRounds x = pair(2, 5);
+        TripRounds x = Towns.pair(2, 5);
         x.street(0, 1, 1, 10, 1);
         x.street(0, 1, 5, 0, 1);
         CHECK.same("15: all at once", 0, x.assign(1));
@@ -64,7 +46,7 @@ public final class StreetsTest {
     }
 
     private static void assignByTimesOfTheBeginning() {
-        TripRounds x = nodes(3);
+        TripRounds x = Towns.nodes(3);
         x.zone(0, 0, 10);
         x.zone(1, 10, 0);
         x.zone(2, 0, 10);
@@ -82,18 +64,18 @@ public final class StreetsTest {
     }
 
     private static void assignLost() {
-        TripRounds x = pair(2, 5);
+        TripRounds x = Towns.pair(2, 5);
         x.street(1, 0, 1, 0, 1);
         CHECK.same("15: no way there", 5, x.assign(3));
         CHECK.same("15: nobody on the street", 0, x.flow(0, 0));
         x.street(0, 1, 1, 0, 1);
         CHECK.same("15: a way there", 0, x.assign(3));
-        TripRounds one = nodes(1);
+        TripRounds one = Towns.nodes(1);
         one.zone(0, 6, 3);
         one.zone(0, 0, 3);
         one.rounds(1, 0);
         CHECK.same("15: zones at one node lose nothing", 0, one.assign(2));
-        TripRounds apart = nodes(2);
+        TripRounds apart = Towns.nodes(2);
         apart.zone(0, 6, 3);
         apart.zone(1, 0, 3);
         apart.rounds(1, 0);
@@ -101,7 +83,7 @@ public final class StreetsTest {
     }
 
     private static void assignOnlyDrivers() {
-        TripRounds x = pair(2, 10);
+        TripRounds x = Towns.pair(2, 10);
         x.street(0, 1, 1, 0, 1);
         x.pull(0, 0, 1, 1);
         x.pull(1, 0, 1, 2);
@@ -114,7 +96,7 @@ public final class StreetsTest {
     }
 
     private static void assignAnew() {
-        TripRounds x = pair(2, 10);
+        TripRounds x = Towns.pair(2, 10);
         x.street(0, 1, 1, 0, 1);
         x.assign(1);
         x.assign(1);
@@ -128,7 +110,7 @@ public final class StreetsTest {
     }
 
     private static void flows() {
-        TripRounds x = pair(2, 100);
+        TripRounds x = Towns.pair(2, 100);
         x.street(0, 1, 7, 3, 40);
         CHECK.same("16: time when empty", 7, x.flow(0, 1));
         x.assign(1);
@@ -140,12 +122,12 @@ public final class StreetsTest {
         CHECK.argument("16: what -1", () -> x.flow(0, -1));
         CHECK.argument("16: street 1", () -> x.flow(1, 0));
         CHECK.argument("16: street -1", () -> x.flow(-1, 0));
-        TripRounds full = pair(2, 100000);
+        TripRounds full = Towns.pair(2, 100000);
         full.street(0, 1, 1000, 1000, 1);
         full.toll(0, 1000);
         full.assign(1);
         CHECK.same("16: 1000000 at most", 1000000, full.flow(0, 1));
-        TripRounds brim = pair(2, 998);
+        TripRounds brim = Towns.pair(2, 998);
         brim.street(0, 1, 1000, 1000, 1);
         brim.toll(0, 999);
         brim.assign(1);
@@ -153,7 +135,7 @@ public final class StreetsTest {
     }
 
     private static void ways() {
-        TripRounds x = nodes(5);
+        TripRounds x = Towns.nodes(5);
         x.street(2, 3, 2, 0, 1);
         x.street(0, 1, 2, 0, 1);
         x.street(0, 2, 2, 0, 1);
@@ -178,7 +160,7 @@ public final class StreetsTest {
         CHECK.argument("17: to 5", () -> x.way(0, 5, 0));
         CHECK.argument("17: from -1", () -> x.way(-1, 3, 0));
         CHECK.argument("17: to -1", () -> x.way(0, -1, 0));
-        TripRounds longest = nodes(12);
+        TripRounds longest = Towns.nodes(12);
         for (int i = 11; i > 0; i--) {
             longest.street(i - 1, i, 1, 0, 1);
         }
@@ -186,7 +168,7 @@ public final class StreetsTest {
         CHECK.same("17: from the first street", 10, longest.way(0, 11, 0));
         CHECK.same("17: and no more", -1, longest.way(0, 11, 11));
         CHECK.same("18: through all nodes", 11, longest.least(0, 11));
-        TripRounds upwards = nodes(12);
+        TripRounds upwards = Towns.nodes(12);
         for (int i = 1; i < 12; i++) {
             upwards.street(i - 1, i, 1, 0, 1);
         }
@@ -195,7 +177,7 @@ public final class StreetsTest {
     }
 
     private static void waysByTimeNow() {
-        TripRounds x = pair(2, 5);
+        TripRounds x = Towns.pair(2, 5);
         x.street(0, 1, 1, 1, 1);
         x.street(0, 1, 5, 0, 1);
         CHECK.same("17: when empty", 0, x.way(0, 1, 0));
@@ -209,7 +191,7 @@ public final class StreetsTest {
     }
 
     private static void leastTimes() {
-        TripRounds x = nodes(4);
+        TripRounds x = Towns.nodes(4);
         x.street(0, 1, 1000, 0, 1);
         x.street(0, 2, 100, 0, 1);
         x.street(2, 1, 200, 0, 1);
@@ -224,7 +206,7 @@ public final class StreetsTest {
     }
 
     private static void links() {
-        TripRounds x = pair(3, 6);
+        TripRounds x = Towns.pair(3, 6);
         x.zone(2, 4, 0);
         x.street(0, 1, 1, 0, 1);
         x.street(2, 0, 1, 0, 1);
@@ -252,7 +234,7 @@ public final class StreetsTest {
     }
 
     private static void gaps() {
-        TripRounds x = pair(2, 10);
+        TripRounds x = Towns.pair(2, 10);
         x.street(0, 1, 5, 2, 1);
         x.street(0, 1, 9, 0, 1);
         CHECK.same("20: before any", 0, x.gap());
@@ -268,7 +250,7 @@ public final class StreetsTest {
     }
 
     private static void gapOfNow() {
-        TripRounds x = pair(2, 10);
+        TripRounds x = Towns.pair(2, 10);
         x.street(0, 1, 5, 2, 1);
         x.street(0, 1, 9, 0, 1);
         x.assign(2);
@@ -280,11 +262,11 @@ public final class StreetsTest {
         CHECK.same("20: less than 0 with a closed street", -470, x.gap());
         x.open(1, false);
         CHECK.same("20: without a way nothing is less", 620, x.gap());
-        TripRounds lost = pair(2, 10);
+        TripRounds lost = Towns.pair(2, 10);
         lost.assign(1);
         lost.street(0, 1, 5, 0, 1);
         CHECK.same("20: the lost ones went nowhere", 0, lost.gap());
-        TripRounds great = pair(2, 100000);
+        TripRounds great = Towns.pair(2, 100000);
         great.street(0, 1, 1, 1000, 1);
         great.street(0, 1, 1000, 0, 1);
         great.assign(1);
@@ -292,7 +274,7 @@ public final class StreetsTest {
     }
 
     private static void counts() {
-        TripRounds x = nodes(2);
+        TripRounds x = Towns.nodes(2);
         x.street(0, 1, 1, 0, 1);
         CHECK.same("21: at first", -1, x.count(0, 0));
         CHECK.same("21: 0 is a count", 0, x.count(0, 1000000));
@@ -305,7 +287,7 @@ public final class StreetsTest {
     }
 
     private static void fitting() {
-        TripRounds x = pair(3, 6);
+        TripRounds x = Towns.pair(3, 6);
         x.zone(2, 4, 0);
         x.street(0, 1, 1, 0, 1);
         x.street(2, 0, 1, 0, 1);
@@ -330,7 +312,7 @@ public final class StreetsTest {
     }
 
     private static void fitLooksAtTheFarthest() {
-        TripRounds x = pair(4, 10);
+        TripRounds x = Towns.pair(4, 10);
         x.zone(2, 10, 0);
         x.zone(3, 0, 0);
         x.street(0, 1, 1, 0, 1);
@@ -358,7 +340,7 @@ public final class StreetsTest {
     }
 
     private static void fitInParts() {
-        TripRounds x = pair(2, 10);
+        TripRounds x = Towns.pair(2, 10);
         x.street(0, 1, 1, 10, 1);
         x.street(0, 1, 5, 0, 1);
         x.assign(2);
@@ -376,7 +358,7 @@ public final class StreetsTest {
     }
 
     private static void fitBounds() {
-        TripRounds x = pair(2, 100000);
+        TripRounds x = Towns.pair(2, 100000);
         x.street(0, 1, 1, 0, 1);
         x.pull(0, 0, 1, 1);
         x.pull(1, 0, 1, 999);
@@ -390,13 +372,13 @@ public final class StreetsTest {
     }
 
     private static void fitGreat() {
-        TripRounds one = pair(2, 100000);
+        TripRounds one = Towns.pair(2, 100000);
         one.street(0, 1, 1, 0, 1);
         one.assign(1);
         one.count(0, 200000);
         CHECK.same("22: products beyond an int", 1, one.fit(5));
         CHECK.same("22: twice as many", 200000, one.trips(0, 1));
-        TripRounds x = nodes(5);
+        TripRounds x = Towns.nodes(5);
         x.zone(4, 0, 100000);
         x.street(3, 4, 1, 1000, 1000000);
         for (int i = 0; i < 3; i++) {
@@ -417,7 +399,7 @@ public final class StreetsTest {
     }
 
     private static void fitEnds() {
-        TripRounds x = pair(3, 10);
+        TripRounds x = Towns.pair(3, 10);
         x.street(0, 1, 1, 0, 1);
         x.street(1, 2, 1, 0, 1);
         x.assign(1);
@@ -429,13 +411,13 @@ public final class StreetsTest {
         x.count(1, 0);
         CHECK.same("22: empty as counted", 1, x.fit(5));
         CHECK.same("22: fitted", 11, x.flow(0, 0));
-        TripRounds empty = nodes(0);
+        TripRounds empty = Towns.nodes(0);
         empty.assign(1);
         CHECK.same("22: an empty town", 0, empty.fit(20));
     }
 
     private static void fitWrong() {
-        TripRounds x = pair(2, 10);
+        TripRounds x = Towns.pair(2, 10);
         x.street(0, 1, 1, 0, 1);
         x.count(0, 5);
         CHECK.state("22: nothing was assigned", () -> x.fit(1));

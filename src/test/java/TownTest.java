@@ -14,14 +14,6 @@ public final class TownTest {
         CHECK.end();
     }
 
-    private static TripRounds town(int nodes) {
-        TripRounds x = new TripRounds();
-        for (int i = 0; i < nodes; i++) {
-            x.node();
-        }
-        return x;
-    }
-
     private static void newObject() {
         TripRounds x = new TripRounds();
         CHECK.same("NONE", -1, TripRounds.NONE);
@@ -47,7 +39,7 @@ public final class TownTest {
     }
 
     private static void zones() {
-        TripRounds x = town(2);
+        TripRounds x = Towns.nodes(2);
         CHECK.argument("3: node -1", () -> x.zone(-1, 1, 1));
         CHECK.argument("3: node 2", () -> x.zone(2, 1, 1));
         CHECK.argument("3: people -1", () -> x.zone(0, -1, 1));
@@ -71,7 +63,7 @@ public final class TownTest {
     }
 
     private static void streets() {
-        TripRounds x = town(2);
+        TripRounds x = Towns.nodes(2);
         CHECK.argument("4: from -1", () -> x.street(-1, 1, 1, 0, 1));
         CHECK.argument("4: from 2", () -> x.street(2, 1, 1, 0, 1));
         CHECK.argument("4: to -1", () -> x.street(0, -1, 1, 0, 1));
@@ -98,7 +90,7 @@ public final class TownTest {
     }
 
     private static void tolls() {
-        TripRounds x = town(2);
+        TripRounds x = Towns.nodes(2);
         x.street(0, 1, 5, 0, 1);
         CHECK.same("5: toll at first", 0, x.toll(0, 1000));
         CHECK.same("5: time with it", 1005, x.flow(0, 1));
@@ -111,7 +103,7 @@ public final class TownTest {
     }
 
     private static void openStreets() {
-        TripRounds x = town(2);
+        TripRounds x = Towns.nodes(2);
         x.zone(0, 10, 0);
         x.zone(1, 0, 10);
         x.street(0, 1, 5, 0, 1);
@@ -130,7 +122,7 @@ public final class TownTest {
     }
 
     private static void weights() {
-        TripRounds x = town(1);
+        TripRounds x = Towns.nodes(1);
         x.zone(0, 12, 0);
         x.zone(0, 12, 0);
         CHECK.same("7: weight at first", 1, x.weight(0, 1, 1000));
@@ -149,7 +141,7 @@ public final class TownTest {
     }
 
     private static void sizes() {
-        TripRounds x = town(1);
+        TripRounds x = Towns.nodes(1);
         x.zone(0, 7, 9);
         CHECK.argument("8: what 2", () -> x.size(0, 2, 1));
         CHECK.argument("8: what -1", () -> x.size(0, -1, 1));

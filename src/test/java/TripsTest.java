@@ -14,18 +14,8 @@ public final class TripsTest {
         CHECK.end();
     }
 
-    /** Zones at one node, each with people and jobs as they come in the row. */
-    private static TripRounds town(int... sizes) {
-        TripRounds x = new TripRounds();
-        x.node();
-        for (int i = 0; i + 1 < sizes.length; i += 2) {
-            x.zone(0, sizes[i], sizes[i + 1]);
-        }
-        return x;
-    }
-
     private static void roundsTillMet() {
-        TripRounds x = town(10, 3, 0, 7);
+        TripRounds x = Towns.atOneNode(10, 3, 0, 7);
         CHECK.same("9: not met in one", -1, x.rounds(1, 0));
         CHECK.same("9: the table of round 1", 5, x.trips(0, 0));
         CHECK.same("9: met in two", 2, x.rounds(2, 0));
@@ -41,7 +31,7 @@ public final class TripsTest {
     }
 
     private static void roundsWrong() {
-        TripRounds x = town(10, 3, 0, 7);
+        TripRounds x = Towns.atOneNode(10, 3, 0, 7);
         x.rounds(50, 0);
         CHECK.argument("9: most 0", () -> x.rounds(0, 0));
         CHECK.argument("9: most 51", () -> x.rounds(51, 0));
@@ -52,7 +42,7 @@ public final class TripsTest {
     }
 
     private static void sharingOut() {
-        TripRounds x = town(11, 0, 10, 0, 10, 0);
+        TripRounds x = Towns.atOneNode(11, 0, 10, 0, 10, 0);
         x.weight(1, 1, 2);
         x.weight(1, 2, 3);
         for (int to = 0; to < 3; to++) {
@@ -69,15 +59,15 @@ public final class TripsTest {
     }
 
     private static void factorBounds() {
-        TripRounds low = town(10, 0, 0, 10);
+        TripRounds low = Towns.atOneNode(10, 0, 0, 10);
         CHECK.same("9: no jobs", 2, low.rounds(50, 0));
         CHECK.same("12: 1 at least", 1, low.factor(0));
         CHECK.same("12: doubled", 2000, low.factor(1));
-        TripRounds high = town(1000, 0, 0, 100000);
+        TripRounds high = Towns.atOneNode(1000, 0, 0, 100000);
         high.weight(0, 0, 1000);
         CHECK.same("9: too many jobs", -2, high.rounds(2, 0));
         CHECK.same("12: 1000000 at most", 1000000, high.factor(1));
-        TripRounds still = town(10, 3, 0, 7);
+        TripRounds still = Towns.atOneNode(10, 3, 0, 7);
         still.weight(0, 1, 0);
         still.weight(1, 1, 0);
         CHECK.same("9: nobody can go there", -3, still.rounds(3, 0));
@@ -86,7 +76,7 @@ public final class TripsTest {
     }
 
     private static void factorsOfRounds() {
-        TripRounds x = town(10, 3, 0, 7);
+        TripRounds x = Towns.atOneNode(10, 3, 0, 7);
         CHECK.same("12: before any", -1, x.factor(0));
         x.rounds(1, 0);
         CHECK.same("12: as it was used last", 1000, x.factor(0));
@@ -104,7 +94,7 @@ public final class TripsTest {
     }
 
     private static void tripsAndSums() {
-        TripRounds x = town(12, 0, 6, 0, 3, 0);
+        TripRounds x = Towns.atOneNode(12, 0, 6, 0, 3, 0);
         CHECK.same("10: at first", 0, x.trips(0, 1));
         x.weight(0, 0, 0);
         x.rounds(1, 0);
@@ -126,7 +116,7 @@ public final class TripsTest {
     }
 
     private static void pulls() {
-        TripRounds x = town(10, 0, 10, 0);
+        TripRounds x = Towns.atOneNode(10, 0, 10, 0);
         CHECK.same("13: of mode 0 at first", 1000, x.pull(0, 0, 1, 0));
         CHECK.same("13: of mode 1 at first", 0, x.pull(1, 0, 1, 1000));
         CHECK.same("13: of mode 2 at first", 0, x.pull(2, 0, 1, 7));
@@ -146,7 +136,7 @@ public final class TripsTest {
     }
 
     private static void chosenByModes() {
-        TripRounds x = town(20, 0, 20, 0);
+        TripRounds x = Towns.atOneNode(20, 0, 20, 0);
         CHECK.same("14: of an empty table", 0, x.chosen(0, 0, 1));
         x.rounds(1, 0);
         CHECK.same("14: all by mode 0", 10, x.chosen(0, 0, 1));
