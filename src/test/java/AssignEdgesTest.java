@@ -21,6 +21,7 @@ public final class AssignEdgesTest {
         gapOfTheLost();
         gapOfTheLatest();
         gapWithoutStreets();
+        gapOfEachPair();
         gapSigns();
         CHECK.end();
     }
@@ -74,7 +75,7 @@ public final class AssignEdgesTest {
         x.assign(1);
         CHECK.text("15: nothing is left of those", "10 0", volumes(x, 2));
         x.street(0, 1, 1, 0, 1);
-        CHECK.same("16: of a new street", 0, x.flow(2, 0));
+        CHECK.text("16: of a new street", "10 0 0", volumes(x, 3));
         CHECK.same("19: of a new street", 0, x.link(2, 0, 1));
     }
 
@@ -342,6 +343,28 @@ public final class AssignEdgesTest {
         CHECK.same("20: a way without streets takes no time", 0, x.gap());
         x.street(1, 0, 1, 0, 1);
         CHECK.same("20: and none round about", 0, x.gap());
+    }
+
+    private static void gapOfEachPair() {
+        TripRounds x = Towns.nodes(6);
+        for (int i = 0; i < 6; i++) {
+            x.zone(i, 6, 6);
+        }
+        for (int i = 0; i < 30; i++) {
+            int from = i / 5;
+            x.street(from, (from + 1 + i % 5) % 6, 1, 0, 1);
+        }
+        x.rounds(1, 0);
+        x.assign(1);
+        for (int i = 0; i < 30; i++) {
+            int from = i / 5;
+            CHECK.same("19: each pair on a street of its own", 1, x.link(i, from, (from + 1 + i % 5) % 6));
+            CHECK.same("20: each pair has a way", 0, x.gap());
+            x.open(i, false);
+            // Round about by another node, with one street more: 30 times 1, less 29 times 1 and once 2.
+            CHECK.same("20: each pair has another way", -1, x.gap());
+            x.open(i, true);
+        }
     }
 
     private static void gapSigns() {

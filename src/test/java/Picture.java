@@ -37,6 +37,16 @@ final class Picture {
         return p.answers;
     }
 
+    /** What the latest rounds and the latest assignment left: the table, the factors, the volumes and who went. */
+    static List<Long> ofWork(Supplier<TripRounds> town) {
+        Picture p = new Picture();
+        p.work(town.get());
+        for (int from = 0; from < 6; from++) {
+            p.links(town.get(), from);
+        }
+        return p.answers;
+    }
+
     private long add(Call call) {
         long answer;
         try {
@@ -127,20 +137,23 @@ final class Picture {
 
     private void nextFit(TripRounds x) {
         add(() -> x.fit(3));
-        askLoads(x);
+        work(x);
+        add(x::gap);
     }
 
     private void nextAssign(TripRounds x) {
         add(() -> x.assign(4));
-        askLoads(x);
+        work(x);
+        add(x::gap);
     }
 
     private void nextRounds(TripRounds x) {
         add(() -> x.rounds(3, 0));
-        askLoads(x);
+        work(x);
+        add(x::gap);
     }
 
-    private void askLoads(TripRounds x) {
+    private void work(TripRounds x) {
         for (int s = 0; s < 40; s++) {
             int street = s;
             add(() -> x.flow(street, 0));
@@ -149,6 +162,9 @@ final class Picture {
             int pair = i;
             add(() -> x.trips(pair / 6, pair % 6));
         }
-        add(x::gap);
+        for (int i = 0; i < 6; i++) {
+            int zone = i;
+            add(() -> x.factor(zone));
+        }
     }
 }

@@ -16,6 +16,7 @@ public final class RefusedTest {
         argumentGoesFirst();
         askingChangesNothing();
         tellingTheSameChangesNothing();
+        tellingLeavesTheWork();
         CHECK.end();
     }
 
@@ -129,5 +130,39 @@ public final class RefusedTest {
             x.open(0, false);
             x.open(0, true);
         });
+    }
+
+    /** A town whose latest calls are its rounds and its assignment. */
+    private static TripRounds worked() {
+        TripRounds x = Towns.atOneNode(40, 10, 20, 25, 30, 55);
+        x.node();
+        x.zone(1, 10, 10);
+        x.street(0, 1, 5, 1, 1);
+        x.street(1, 0, 6, 1, 1);
+        x.count(0, 15);
+        x.rounds(4, 0);
+        x.assign(2);
+        return x;
+    }
+
+    private static void leavesWork(String what, Consumer<TripRounds> call) {
+        CHECK.text(what + ": what it does to the work", Picture.ofWork(RefusedTest::worked).toString(),
+                Picture.ofWork(() -> {
+                    TripRounds x = worked();
+                    call.accept(x);
+                    return x;
+                }).toString());
+    }
+
+    /** What is told counts from the next rounds, assignment or fitting on. */
+    private static void tellingLeavesTheWork() {
+        leavesWork("2: node", x -> x.node());
+        leavesWork("5: toll", x -> x.toll(0, 1000));
+        leavesWork("6: closed", x -> x.open(0, false));
+        leavesWork("7: weight", x -> x.weight(0, 1, 1000));
+        leavesWork("8: people", x -> x.size(0, 0, 0));
+        leavesWork("8: jobs", x -> x.size(3, 1, 100000));
+        leavesWork("13: pull", x -> x.pull(0, 0, 3, 0));
+        leavesWork("21: count", x -> x.count(0, 0));
     }
 }

@@ -9,6 +9,7 @@ public final class RoundsEdgesTest {
         leftOver();
         greatNumbers();
         tableAtFirst();
+        toldAtFirst();
         metByExactly();
         metByTheGreatest();
         metByEachZone();
@@ -17,6 +18,7 @@ public final class RoundsEdgesTest {
         factorAtFirst();
         factorAtLeast();
         factorAtMost();
+        factorBetween();
         factorRoundedDown();
         factorWithoutTrips();
         factorUsedLast();
@@ -115,6 +117,19 @@ public final class RoundsEdgesTest {
         CHECK.same("10: from a zone that came later", 0, x.sum(2, 0));
         CHECK.same("10: to a zone that came later", 0, x.sum(2, 1));
         CHECK.same("10: what is there stays", 50, x.trips(0, 1));
+    }
+
+    private static void toldAtFirst() {
+        TripRounds x = Towns.atOneNode(1, 1, 1, 1, 1, 1, 1, 1, 1, 1, 1, 1);
+        for (int from = 0; from < 6; from++) {
+            for (int to = 0; to < 6; to++) {
+                CHECK.same("10: each pair's trips at first", 0, x.trips(from, to));
+                CHECK.same("7: each pair's weight at first", 1, x.weight(from, to, 2));
+                CHECK.same("13: each pair's pull of mode 0 at first", 1000, x.pull(0, from, to, 3));
+                CHECK.same("13: each pair's pull of mode 1 at first", 0, x.pull(1, from, to, 4));
+                CHECK.same("13: each pair's pull of mode 2 at first", 0, x.pull(2, from, to, 5));
+            }
+        }
     }
 
     private static void metByExactly() {
@@ -228,6 +243,16 @@ public final class RoundsEdgesTest {
         TripRounds down = Towns.atOneNode(100000, 0);
         CHECK.same("9: again and again", -50, down.rounds(50, 0));
         CHECK.same("12: 1 * 0 / 100000, so 1", 1, down.factor(0));
+    }
+
+    private static void factorBetween() {
+        TripRounds x = Towns.atOneNode(50000, 100000);
+        CHECK.same("9: half of what is asked", -7, x.rounds(7, 0));
+        CHECK.same("12: doubled six times, by products beyond an int", 64000, x.factor(0));
+        CHECK.same("9: three more", -10, x.rounds(10, 0));
+        CHECK.same("12: doubled nine times", 512000, x.factor(0));
+        CHECK.same("9: one more", -11, x.rounds(11, 0));
+        CHECK.same("12: 1024000 is too much", 1000000, x.factor(0));
     }
 
     private static void factorRoundedDown() {

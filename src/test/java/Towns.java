@@ -52,8 +52,11 @@ final class Towns {
         x.street(1, 0, 8, 4, 40);
         weights(x, 0, 2, 5, 3);
         weights(x, 2, 0, 7, 1);
+        x.pull(0, 0, 0, 900);
+        x.pull(1, 0, 0, 100);
         x.pull(1, 0, 1, 500);
         x.pull(2, 1, 2, 250);
+        x.toll(0, 2);
         x.toll(2, 7);
         x.toll(4, 3);
         x.rounds(20, 3);
@@ -80,9 +83,12 @@ final class Towns {
             x.street(i % 12, (i % 12 + 1 + i / 12 * 2) % 12, 1 + i, i, 100);
         }
         for (int i = 0; i < 40; i += 3) {
-            x.count(i, 70 * i);
+            x.count(i, 70 * i + 9);
         }
+        x.toll(0, 4);
         x.toll(39, 5);
+        x.weight(0, 0, 3);
+        x.pull(0, 0, 0, 800);
         x.pull(1, 5, 4, 300);
         x.rounds(50, 0);
         x.assign(8);

@@ -74,9 +74,12 @@ public final class WaysEdgesTest {
         }
         CHECK.state("4: there are 40", () -> x.street(0, 1, 1, 0, 1));
         CHECK.state("4: there are 40 still", () -> x.street(0, 1, 1, 0, 1));
-        CHECK.same("5: its toll at first", 0, x.toll(39, 1));
-        CHECK.same("6: open at first", 1, x.open(39, true) ? 1 : 0);
-        CHECK.same("21: its count at first", -1, x.count(39, 1));
+        for (int i = 0; i < 40; i++) {
+            CHECK.same("16: its volume at first", 0, x.flow(i, 0));
+            CHECK.same("5: its toll at first", 0, x.toll(i, 1));
+            CHECK.same("6: open at first", 1, x.open(i, true) ? 1 : 0);
+            CHECK.same("21: its count at first", -1, x.count(i, 1));
+        }
     }
 
     /** A street of so many trips, and its time. */
@@ -241,7 +244,12 @@ public final class WaysEdgesTest {
         x.street(1, 2, 1, 0, 1);
         CHECK.same("17: the first one", 0, x.way(0, 2, 0));
         CHECK.same("17: the last one", 1, x.way(0, 2, 1));
-        CHECK.same("17: the first that it has not", -1, x.way(0, 2, 2));
+        for (int k = 2; k < 60; k++) {
+            CHECK.same("17: one that it has not", -1, x.way(0, 2, k));
+        }
+        for (int bit = 6; bit < 31; bit++) {
+            CHECK.same("17: one far beyond", -1, x.way(0, 2, 1 << bit));
+        }
         CHECK.same("17: the greatest that it has not", -1, x.way(0, 2, Integer.MAX_VALUE));
         CHECK.argument("17: below 0", () -> x.way(0, 2, -1));
         CHECK.argument("17: far below 0", () -> x.way(0, 2, Integer.MIN_VALUE));
@@ -276,6 +284,6 @@ public final class WaysEdgesTest {
         CHECK.same("8: the last zone's jobs", 1000, x.size(5, 1, 2));
         CHECK.same("13: the last pair's pull", 0, x.pull(2, 5, 5, 2));
         CHECK.same("18: the last node", 0, x.least(11, 11));
-        CHECK.same("21: the last street's count", 70 * 39, x.count(39, 2));
+        CHECK.same("21: the last street's count", 70 * 39 + 9, x.count(39, 2));
     }
 }
